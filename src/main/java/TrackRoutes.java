@@ -443,8 +443,9 @@ public final class TrackRoutes {
 
         /** The nets with which a net clashes, or would clash, at a place. */
         int clashing(int net, int place, int shielded) {
-            int reaching = isIn(shielded, net) ? far[place] : near[place] | far[place] & shielded;
-            return reaching & ~(1 << net);
+            int self = 1 << net;
+            int reaching = (shielded & self) != 0 ? far[place] : near[place] | far[place] & shielded;
+            return reaching & ~self;
         }
     }
 
@@ -475,15 +476,14 @@ public final class TrackRoutes {
             if (newCost >= cost[place]) {
                 return;
             }
-            cost[place] = newCost;
-            int at = spot[place];
-            if (at == NONE) {
-                if (length >= heap.length) {
-                    return;
-                }
-                at = length;
+            int at = spot[place] == NONE ? length : spot[place];
+            if (at >= heap.length) {
+                return;
+            }
+            if (at == length) {
                 length++;
             }
+            cost[place] = newCost;
             while (at > 0 && isBefore(place, heap[(at - 1) / 2])) {
                 put(heap[(at - 1) / 2], at);
                 at = (at - 1) / 2;
@@ -507,7 +507,8 @@ public final class TrackRoutes {
 
         private void sink(int place) {
             int at = 0;
-            for (int child = 1; child < length; child = 2 * at + 1) {
+            while (2 * at + 1 < length) {
+                int child = 2 * at + 1;
                 if (child + 1 < length && isBefore(heap[child + 1], heap[child])) {
                     child++;
                 }
@@ -630,19 +631,40 @@ public final class TrackRoutes {
         }
 
         private void route(int net) {
+            // A net that waits has no route yet: outside of it are all its pins, and so the first one.
             int start = placeOutside(net);
             if (start != NONE) {
                 routeStand.add(net, start);
             }
             for (int k = 0; k < MOST_PINS && placeOutside(net) != NONE; k++) {
-                if (!grow(net, false) && !grow(net, true)) {
+                int end = findEnd(net, false);
+                boolean tearing = end == NONE;
+                if (tearing) {
+                    end = findEnd(net, true);
+                }
+                if (end == NONE) {
                     dropRoute(net);
                     failedNets |= 1 << net;
                     return;
                 }
+                // The costs hold for the routes as they are: the way is traced before any is torn up.
+                traceBack(net, end, tearing);
+                if (tearing) {
+                    tearUp(net);
+                }
+                layWay(net);
+                countWay(tearing);
             }
             failedNets &= ~(1 << net);
             joinedNets |= 1 << net;
+        }
+
+        private void countWay(boolean tearing) {
+            if (tearing) {
+                tearingWays++;
+            } else {
+                freeWays++;
+            }
         }
 
         /** The chosen place of the net's first pin that is not in its tree, or NONE. */
@@ -656,24 +678,6 @@ public final class TrackRoutes {
                 }
             }
             return NONE;
-        }
-
-        /** One more way for the tree: whether there was one. */
-        private boolean grow(int net, boolean tearing) {
-            int end = findEnd(net, tearing);
-            if (end == NONE) {
-                return false;
-            }
-            // The costs hold for the routes as they are: the way is traced before any is torn up.
-            traceBack(net, end, tearing);
-            if (tearing) {
-                tearUp(net);
-                tearingWays++;
-            } else {
-                freeWays++;
-            }
-            layWay(net);
-            return true;
         }
 
         /**

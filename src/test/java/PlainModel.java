@@ -264,7 +264,7 @@ final class PlainModel {
                 tear(net, way);
             }
             for (int k = 1; k < way.size(); k++) {
-                if (Math.abs(way.get(k) - way.get(k - 1)) == width * height && layerOf(way.get(k)) != layerOf(way.get(k - 1))) {
+                if (layerOf(way.get(k)) != layerOf(way.get(k - 1))) {
                     vias.add(Math.min(way.get(k), way.get(k - 1)));
                 }
             }
@@ -329,7 +329,8 @@ final class PlainModel {
             lowered = false;
             for (int p = 0; p < places(); p++) {
                 for (int q : around(p)) {
-                    if (q >= 0 && onto[p] < never && least[q] < never && least[q] + stepCost(q, p) + onto[p] < least[p]) {
+                    if (q >= 0 && onto[p] < never && least[q] < never
+                            && least[q] + stepCost(q, p) + onto[p] < least[p]) {
                         least[p] = least[q] + stepCost(q, p) + onto[p];
                         lowered = true;
                     }
