@@ -29,6 +29,16 @@ final class Checks {
         due(what, answer(call), want);
     }
 
+    /** A case of its own: what it throws unasked is told, and the next case is tried. */
+    void test(String name, Runnable body) {
+        try {
+            body.run();
+        } catch (RuntimeException e) {
+            wrong++;
+            System.out.println(name + " threw " + e);
+        }
+    }
+
     void outOfBounds(String what, Call call) {
         dueCall(what, call, "throws.IndexOutOfBoundsException");
     }

@@ -1,8 +1,11 @@
+import java.util.ArrayList;
+import java.util.List;
 import java.util.Random;
 
 /** The same calls, made up from fixed seeds, to the program and to PlainModel: the answers are the same. */
 public final class ModelTest {
     private static final Checks CHECKS = new Checks();
+    private static final int MOST_CALLS = 512;
     private static int tornRuns = 0;
     private static int noWayRuns = 0;
     private static int tornOpen = 0;
@@ -25,8 +28,11 @@ public final class ModelTest {
     private final int layers;
     private final int width;
     private final int height;
-    private final TrackRoutes program;
+    private TrackRoutes program;
     private final PlainModel model;
+    /** Calls of the program that may have changed it, to make another one like it. */
+    private final List<Checks.Call> changes = new ArrayList<>();
+    private int calls = 0;
 
     private ModelTest(int seed) {
         this.seed = seed;
@@ -40,13 +46,31 @@ public final class ModelTest {
     }
 
     private void same(String call, Checks.Call one, Checks.Call other) {
+        if (calls >= MOST_CALLS) {
+            makeAnew();
+        }
+        calls++;
         CHECKS.due("seed " + seed + ": " + call, Checks.answer(one), Checks.answer(other));
+    }
+
+    private void sameChange(String call, Checks.Call one, Checks.Call other) {
+        same(call, one, other);
+        changes.add(one);
+    }
+
+    /** Nothing is promised of an object after 512 calls: another one goes on in its place. */
+    private void makeAnew() {
+        program = new TrackRoutes(layers, width, height);
+        for (Checks.Call change : changes) {
+            Checks.answer(change);
+        }
+        calls = changes.size();
     }
 
     private void tryAll() {
         int nets = 1 + random.nextInt(8);
         for (int k = 0; k < nets; k++) {
-            same("net", program::net, model::net);
+            sameChange("net", () -> program.net(), model::net);
         }
         int pins = random.nextInt(4 * nets);
         for (int k = 0; k < pins; k++) {
@@ -64,7 +88,7 @@ public final class ModelTest {
         look();
         for (int turn = 0; turn < 4; turn++) {
             int rounds = random.nextInt(10) - 1 + (turn == 0 ? 2 : 0);
-            same("run(" + rounds + ")", () -> program.run(rounds), () -> model.run(rounds));
+            sameChange("run(" + rounds + ")", () -> program.run(rounds), () -> model.run(rounds));
             tally();
             look();
             for (int k = random.nextInt(4); k >= 0; k--) {
@@ -85,9 +109,9 @@ public final class ModelTest {
     }
 
     private void addPin(int net) {
-        same("pin(" + net + ")", () -> program.pin(net), () -> model.pin(net));
+        sameChange("pin(" + net + ")", () -> program.pin(net), () -> model.pin(net));
         for (int k = random.nextInt(3); k >= 0; k--) {
-            access(program.count(1) - 1);
+            access(model.count(1) - 1);
         }
     }
 
@@ -100,7 +124,7 @@ public final class ModelTest {
         int layer = near(layers);
         long x = near(width);
         long y = near(height);
-        same("access(" + pin + ", " + layer + ", " + x + ", " + y + ")",
+        sameChange("access(" + pin + ", " + layer + ", " + x + ", " + y + ")",
             () -> program.access(pin, layer, x, y), () -> model.access(pin, layer, x, y));
     }
 
@@ -110,7 +134,7 @@ public final class ModelTest {
         long y0 = near(height);
         long x1 = random.nextBoolean() ? x0 : x0 + near(3);
         long y1 = x0 != x1 ? y0 : y0 + near(3);
-        same("bar(" + layer + ", " + x0 + ", " + y0 + ", " + x1 + ", " + y1 + ")",
+        sameChange("bar(" + layer + ", " + x0 + ", " + y0 + ", " + x1 + ", " + y1 + ")",
             () -> program.bar(layer, x0, y0, x1, y1), () -> model.bar(layer, x0, y0, x1, y1));
     }
 
@@ -118,12 +142,12 @@ public final class ModelTest {
         int kind = near(3);
         int layer = near(layers);
         long v = random.nextInt(5) == 0 ? random.nextInt(60) - 4 : random.nextInt(4);
-        same("rule(" + kind + ", " + layer + ", " + v + ")",
+        sameChange("rule(" + kind + ", " + layer + ", " + v + ")",
             () -> program.rule(kind, layer, v), () -> model.rule(kind, layer, v));
     }
 
     private void shield(int net) {
-        same("shield(" + net + ")", () -> program.shield(net), () -> model.shield(net));
+        sameChange("shield(" + net + ")", () -> program.shield(net), () -> model.shield(net));
     }
 
     private void change(int nets) {
@@ -138,10 +162,10 @@ public final class ModelTest {
                 shield(near(nets));
                 break;
             case 3:
-                access(near(program.count(1) + 1));
+                access(near(model.count(1) + 1));
                 break;
             case 4:
-                same("net", program::net, model::net);
+                sameChange("net", () -> program.net(), model::net);
                 break;
             default:
                 addPin(near(nets));
@@ -182,7 +206,7 @@ public final class ModelTest {
                 }
             }
         }
-        for (int n = -1; n < program.count(0) + 1; n++) {
+        for (int n = -1; n < model.count(0) + 1; n++) {
             int net = n;
             boolean more = true;
             for (int k = -1; more; k++) {

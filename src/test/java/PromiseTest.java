@@ -25,45 +25,7 @@ public final class PromiseTest {
         promise14History();
         promise15Count();
         changesEndARun();
-        throwingChangesNothing();
         CHECKS.end("PromiseTest");
-    }
-
-    /** A new pin of the net, at one access place. */
-    private static void pinAt(TrackRoutes r, int net, int layer, int x, int y) {
-        r.access(r.pin(net), layer, x, y);
-    }
-
-    /** A new net with pins at places of layer 0: x, y, x, y, .. */
-    private static int netAt(TrackRoutes r, int... xy) {
-        int net = r.net();
-        for (int k = 0; k + 1 < xy.length; k += 2) {
-            pinAt(r, net, 0, xy[k], xy[k + 1]);
-        }
-        return net;
-    }
-
-    /** All places of a net: layer, x, y of each, with ^ for a via to the layer above. */
-    private static String pieces(TrackRoutes r, int net) {
-        StringBuilder text = new StringBuilder();
-        for (int k = 0; k < 3 * 24 * 24; k++) {
-            int which = k;
-            if (!(Checks.answer(() -> r.piece(net, which, 0)) instanceof Integer)) {
-                break;
-            }
-            text.append(k == 0 ? "" : " ").append(r.piece(net, k, 0)).append(',').append(r.piece(net, k, 1))
-                .append(',').append(r.piece(net, k, 2)).append(r.piece(net, k, 3) == 1 ? "^" : "");
-        }
-        return text.toString();
-    }
-
-    /** What is counted: nets, pins, barred, rounds, ways without and with tearing up. */
-    private static String counts(TrackRoutes r) {
-        StringBuilder text = new StringBuilder();
-        for (int what = 0; what < 6; what++) {
-            text.append(what == 0 ? "" : " ").append(r.count(what));
-        }
-        return text.toString();
     }
 
     private static void size(TrackRoutes r, String name, int layers, int width, int height) {
@@ -82,12 +44,12 @@ public final class PromiseTest {
         size(new TrackRoutes(Integer.MIN_VALUE, Long.MIN_VALUE, Long.MAX_VALUE), "least", 1, 1, 24);
         size(new TrackRoutes(Integer.MAX_VALUE, 1L << 32, -1L << 32), "most", 3, 24, 1);
         TrackRoutes r = new TrackRoutes(3, 4, 4);
-        CHECKS.due("nothing else", counts(r), "0 0 0 0 0 0");
+        CHECKS.due("nothing else", Scenes.counts(r), "0 0 0 0 0 0");
         CHECKS.outOfBounds("no net", () -> r.shield(0));
         CHECKS.outOfBounds("no pin", () -> r.access(0, 0, 0, 0));
         CHECKS.illegalState("no run", () -> r.broken(0));
         CHECKS.due("run of nothing", r.run(8), 0);
-        CHECKS.due("no round of nothing", counts(r), "0 0 0 0 0 0");
+        CHECKS.due("no round of nothing", Scenes.counts(r), "0 0 0 0 0 0");
     }
 
     private static void promise2Rule() {
@@ -210,8 +172,8 @@ public final class PromiseTest {
     private static void shieldKeepsAway() {
         for (int shielded = 0; shielded < 2; shielded++) {
             TrackRoutes r = new TrackRoutes(1, 5, 2);
-            netAt(r, 0, 0, 4, 0);
-            netAt(r, 0, 1, 4, 1);
+            Scenes.netAt(r, 0, 0, 4, 0);
+            Scenes.netAt(r, 0, 1, 4, 1);
             CHECKS.due("side by side", r.run(1), 0);
             r.shield(shielded);
             CHECKS.due("shielded " + shielded, r.run(1), 1);
@@ -223,17 +185,17 @@ public final class PromiseTest {
 
     private static void promise8RunWays() {
         TrackRoutes r = new TrackRoutes(1, 5, 3);
-        int net = netAt(r, 0, 1, 4, 1);
+        int net = Scenes.netAt(r, 0, 1, 4, 1);
         CHECKS.due("straight", r.run(1), 0);
-        CHECKS.due("straight way", pieces(r, net), "0,0,1 0,1,1 0,2,1 0,3,1 0,4,1");
+        CHECKS.due("straight way", Scenes.pieces(r, net), "0,0,1 0,1,1 0,2,1 0,3,1 0,4,1");
         r.bar(0, 2, 1, 2, 2);
         CHECKS.due("round a wall", r.run(1), 0);
-        CHECKS.due("lesser x first from the end back", pieces(r, net),
+        CHECKS.due("lesser x first from the end back", Scenes.pieces(r, net),
             "0,0,0 0,1,0 0,2,0 0,3,0 0,0,1 0,3,1 0,4,1");
         r.bar(0, 2, 0, 2, 0);
         CHECKS.due("walled off", r.run(8), 1);
-        CHECKS.due("only its pins", pieces(r, net), "0,0,1 0,4,1");
-        CHECKS.due("no way in every round", counts(r), "1 2 3 8 0 0");
+        CHECKS.due("only its pins", Scenes.pieces(r, net), "0,0,1 0,4,1");
+        CHECKS.due("no way in every round", Scenes.counts(r), "1 2 3 8 0 0");
         CHECKS.illegalArgument("rounds 9", () -> r.run(9));
         CHECKS.illegalArgument("rounds -1", () -> r.run(-1));
         threePinsOneCutOff();
@@ -242,40 +204,41 @@ public final class PromiseTest {
     /** The way to the near pin is found each round, and is lost with the route when the far pin has none. */
     private static void threePinsOneCutOff() {
         TrackRoutes r = new TrackRoutes(1, 5, 1);
-        int net = netAt(r, 0, 0, 2, 0, 4, 0);
+        int net = Scenes.netAt(r, 0, 0, 2, 0, 4, 0);
         r.bar(0, 3, 0, 3, 0);
         CHECKS.due("open", r.run(2), 1);
         CHECKS.due("why", r.open(0, 1), 2);
-        CHECKS.due("no route left", pieces(r, net), "0,0,0 0,2,0 0,4,0");
-        CHECKS.due("a way in each round", counts(r), "1 3 1 2 2 0");
+        CHECKS.due("no route left", Scenes.pieces(r, net), "0,0,0 0,2,0 0,4,0");
+        CHECKS.due("a way in each round", Scenes.counts(r), "1 3 1 2 2 0");
     }
 
     /** On layer 0 tracks go along x, on layer 1 along y; a jog and vias are paid for. */
     private static void promise8RunRules() {
         TrackRoutes r = new TrackRoutes(2, 2, 5);
-        int net = netAt(r, 0, 0, 0, 4);
+        int net = Scenes.netAt(r, 0, 0, 0, 4);
         r.run(1);
-        CHECKS.due("4 steps by vias cost 14, across 16", pieces(r, net),
+        CHECKS.due("4 steps by vias cost 14, across 16", Scenes.pieces(r, net),
             "0,0,0^ 0,0,4^ 1,0,0 1,0,1 1,0,2 1,0,3 1,0,4");
         r.rule(1, 0, 2);
         r.run(1);
-        CHECKS.due("across costs 12 now", pieces(r, net), "0,0,0 0,0,1 0,0,2 0,0,3 0,0,4");
+        CHECKS.due("across costs 12 now", Scenes.pieces(r, net), "0,0,0 0,0,1 0,0,2 0,0,3 0,0,4");
         r.rule(2, 0, 3);
         r.run(1);
-        CHECKS.due("by vias 10", pieces(r, net), "0,0,0^ 0,0,4^ 1,0,0 1,0,1 1,0,2 1,0,3 1,0,4");
+        CHECKS.due("by vias 10", Scenes.pieces(r, net), "0,0,0^ 0,0,4^ 1,0,0 1,0,1 1,0,2 1,0,3 1,0,4");
         r.rule(2, 1, 50);
         r.run(1);
-        CHECKS.due("the lower layer's via counts", pieces(r, net), "0,0,0^ 0,0,4^ 1,0,0 1,0,1 1,0,2 1,0,3 1,0,4");
+        CHECKS.due("the lower layer's via counts", Scenes.pieces(r, net),
+            "0,0,0^ 0,0,4^ 1,0,0 1,0,1 1,0,2 1,0,3 1,0,4");
         TrackRoutes odd = new TrackRoutes(2, 3, 1);
         int across = odd.net();
-        pinAt(odd, across, 1, 0, 0);
-        pinAt(odd, across, 1, 2, 0);
+        Scenes.pinAt(odd, across, 1, 0, 0);
+        Scenes.pinAt(odd, across, 1, 2, 0);
         odd.rule(1, 1, 4);
         odd.run(1);
-        CHECKS.due("along x on layer 1 costs 10, below 12", pieces(odd, across), "1,0,0 1,1,0 1,2,0");
+        CHECKS.due("along x on layer 1 costs 10, below 12", Scenes.pieces(odd, across), "1,0,0 1,1,0 1,2,0");
         odd.rule(1, 1, 6);
         odd.run(1);
-        CHECKS.due("along x on layer 1 costs 14", pieces(odd, across), "0,0,0^ 0,1,0 0,2,0^ 1,0,0 1,2,0");
+        CHECKS.due("along x on layer 1 costs 14", Scenes.pieces(odd, across), "0,0,0^ 0,1,0 0,2,0^ 1,0,0 1,2,0");
         spaceKeepsAway();
     }
 
@@ -287,13 +250,13 @@ public final class PromiseTest {
                 int far = space + shielded;
                 // Else the way by row 3 would be as short as by row 5, if the pillar stands in row 4.
                 r.bar(0, 7, 0, 7, 3);
-                int pillar = netAt(r, 6, 4 - far);
-                int net = netAt(r, 0, 4, 11, 4);
+                int pillar = Scenes.netAt(r, 6, 4 - far);
+                int net = Scenes.netAt(r, 0, 4, 11, 4);
                 if (shielded == 1) {
                     r.shield(pillar);
                 }
                 CHECKS.due("a way round", r.run(1), 0);
-                CHECKS.due("clear of the pillar by " + far, pieces(r, net), roundThePillar(7 + far));
+                CHECKS.due("clear of the pillar by " + far, Scenes.pieces(r, net), roundThePillar(7 + far));
             }
         }
     }
@@ -316,9 +279,9 @@ public final class PromiseTest {
         backFrom("lesser x, upwards", 0, 2, 2, 0, "0,0,0 0,1,0 0,2,0 0,0,1 0,0,2");
         TrackRoutes r = new TrackRoutes(1, 3, 3);
         r.rule(1, 0, 0);
-        int net = netAt(r, 2, 2, 0, 1, 1, 0);
+        int net = Scenes.netAt(r, 2, 2, 0, 1, 1, 0);
         r.run(1);
-        CHECKS.due("of two ends the first in the order comes first", pieces(r, net),
+        CHECKS.due("of two ends the first in the order comes first", Scenes.pieces(r, net),
             "0,1,0 0,2,0 0,0,1 0,1,1 0,2,1 0,2,2");
         layersComeLast();
         lesserYBeforeGreater();
@@ -327,9 +290,9 @@ public final class PromiseTest {
     private static void backFrom(String name, int x0, int y0, int x1, int y1, String want) {
         TrackRoutes r = new TrackRoutes(1, 3, 3);
         r.rule(1, 0, 0);
-        int net = netAt(r, x0, y0, x1, y1);
+        int net = Scenes.netAt(r, x0, y0, x1, y1);
         r.run(1);
-        CHECKS.due(name, pieces(r, net), want);
+        CHECKS.due(name, Scenes.pieces(r, net), want);
     }
 
     /** From (0, 0, 0) to (1, 1, 0) with steps of 1: back along x first, then down; the way back up likewise. */
@@ -338,20 +301,20 @@ public final class PromiseTest {
         r.rule(1, 1, 0);
         r.rule(2, 0, 1);
         int net = r.net();
-        pinAt(r, net, 0, 0, 0);
-        pinAt(r, net, 1, 1, 0);
+        Scenes.pinAt(r, net, 0, 0, 0);
+        Scenes.pinAt(r, net, 1, 1, 0);
         r.run(1);
-        CHECKS.due("x before the layer below", pieces(r, net), "0,0,0^ 1,0,0 1,1,0");
+        CHECKS.due("x before the layer below", Scenes.pieces(r, net), "0,0,0^ 1,0,0 1,1,0");
         TrackRoutes up = new TrackRoutes(3, 1, 2);
         up.rule(1, 0, 0);
         up.rule(1, 2, 0);
         up.rule(2, 0, 1);
         up.rule(2, 1, 1);
         int other = up.net();
-        pinAt(up, other, 2, 0, 0);
-        pinAt(up, other, 0, 0, 1);
+        Scenes.pinAt(up, other, 2, 0, 0);
+        Scenes.pinAt(up, other, 0, 0, 1);
         up.run(1);
-        CHECKS.due("y before the layer above", pieces(up, other), "0,0,0^ 0,0,1 1,0,0^ 2,0,0");
+        CHECKS.due("y before the layer above", Scenes.pieces(up, other), "0,0,0^ 0,0,1 1,0,0^ 2,0,0");
         belowBeforeAbove();
     }
 
@@ -359,54 +322,36 @@ public final class PromiseTest {
     private static void belowBeforeAbove() {
         TrackRoutes r = new TrackRoutes(3, 3, 1);
         int net = r.net();
-        pinAt(r, net, 1, 0, 0);
-        pinAt(r, net, 1, 2, 0);
+        Scenes.pinAt(r, net, 1, 0, 0);
+        Scenes.pinAt(r, net, 1, 2, 0);
         r.bar(1, 1, 0, 1, 0);
         r.run(1);
-        CHECKS.due("below before above", pieces(r, net), "0,0,0^ 0,1,0 0,2,0^ 1,0,0 1,2,0");
+        CHECKS.due("below before above", Scenes.pieces(r, net), "0,0,0^ 0,1,0 0,2,0^ 1,0,0 1,2,0");
         r.bar(0, 1, 0, 1, 0);
         r.run(1);
-        CHECKS.due("above, when there is none below", pieces(r, net), "1,0,0^ 1,2,0^ 2,0,0 2,1,0 2,2,0");
+        CHECKS.due("above, when there is none below", Scenes.pieces(r, net), "1,0,0^ 1,2,0^ 2,0,0 2,1,0 2,2,0");
     }
 
     private static void lesserYBeforeGreater() {
         TrackRoutes r = new TrackRoutes(1, 3, 3);
-        int net = netAt(r, 0, 1, 2, 1);
+        int net = Scenes.netAt(r, 0, 1, 2, 1);
         r.bar(0, 1, 1, 1, 1);
         r.run(1);
-        CHECKS.due("lesser y before greater", pieces(r, net), "0,0,0 0,1,0 0,2,0 0,0,1 0,2,1");
-    }
-
-    /** A row and a column of one layer that must cross: each tears up the other one. */
-    private static TrackRoutes cross() {
-        TrackRoutes r = new TrackRoutes(1, 5, 3);
-        netAt(r, 0, 1, 4, 1);
-        netAt(r, 2, 0, 2, 2);
-        return r;
-    }
-
-    /** The same where they can cross at (2, 1) alone. */
-    private static TrackRoutes plus() {
-        TrackRoutes r = cross();
-        r.bar(0, 0, 0, 1, 0);
-        r.bar(0, 3, 0, 4, 0);
-        r.bar(0, 0, 2, 1, 2);
-        r.bar(0, 3, 2, 4, 2);
-        return r;
+        CHECKS.due("lesser y before greater", Scenes.pieces(r, net), "0,0,0 0,1,0 0,2,0 0,0,1 0,2,1");
     }
 
     private static void promise8RunTearing() {
-        TrackRoutes r = plus();
+        TrackRoutes r = Scenes.plus();
         CHECKS.due("one is open", r.run(1), 1);
         CHECKS.due("torn up", r.open(0, 0) + " " + r.open(0, 1), "0 3");
-        CHECKS.due("the row lost its route", pieces(r, 0), "0,0,1 0,4,1");
-        CHECKS.due("the column has one", pieces(r, 1), "0,2,0 0,2,1 0,2,2");
-        CHECKS.due("one way free, one torn", counts(r), "2 4 8 1 1 1");
+        CHECKS.due("the row lost its route", Scenes.pieces(r, 0), "0,0,1 0,4,1");
+        CHECKS.due("the column has one", Scenes.pieces(r, 1), "0,2,0 0,2,1 0,2,2");
+        CHECKS.due("one way free, one torn", Scenes.counts(r), "2 4 8 1 1 1");
         CHECKS.due("history", r.history(0, 2, 1), 5);
         CHECKS.due("both torn in round 2, the column anew in it", r.run(2), 1);
-        CHECKS.due("round 2", counts(r) + " " + r.history(0, 2, 1), "2 4 8 2 1 3 15");
+        CHECKS.due("round 2", Scenes.counts(r) + " " + r.history(0, 2, 1), "2 4 8 2 1 3 15");
         CHECKS.due("as many rounds as told", r.run(8), 1);
-        CHECKS.due("rounds", counts(r) + " " + r.history(0, 2, 1), "2 4 8 8 1 15 75");
+        CHECKS.due("rounds", Scenes.counts(r) + " " + r.history(0, 2, 1), "2 4 8 8 1 15 75");
         tearsTheCheaper();
         tearsSeveral();
     }
@@ -414,12 +359,12 @@ public final class PromiseTest {
     /** Straight down two routes are torn, for 16 and 40; round the second one only one, for 20 and 20. */
     private static void tearsTheCheaper() {
         TrackRoutes r = new TrackRoutes(1, 7, 5);
-        netAt(r, 0, 1, 6, 1);
-        netAt(r, 2, 2, 4, 2);
-        int column = netAt(r, 3, 0, 3, 4);
+        Scenes.netAt(r, 0, 1, 6, 1);
+        Scenes.netAt(r, 2, 2, 4, 2);
+        int column = Scenes.netAt(r, 3, 0, 3, 4);
         CHECKS.due("one torn", r.run(1), 1);
         CHECKS.due("which", r.open(0, 0), 0);
-        CHECKS.due("by the way round", pieces(r, column),
+        CHECKS.due("by the way round", Scenes.pieces(r, column),
             "0,1,0 0,2,0 0,3,0 0,1,1 0,1,2 0,1,3 0,1,4 0,2,4 0,3,4");
         CHECKS.due("there", r.history(0, 1, 1) + " " + r.history(0, 3, 1) + " " + r.history(0, 3, 2), "5 0 0");
     }
@@ -428,8 +373,8 @@ public final class PromiseTest {
     private static void tearsSeveral() {
         TrackRoutes r = new TrackRoutes(1, 9, 7);
         r.rule(0, 0, 1);
-        netAt(r, 0, 3, 8, 3);
-        netAt(r, 4, 0, 4, 6);
+        Scenes.netAt(r, 0, 3, 8, 3);
+        Scenes.netAt(r, 4, 0, 4, 6);
         CHECKS.due("torn", r.run(1), 1);
         String past = "";
         for (int y = 0; y < 7; y++) {
@@ -438,9 +383,9 @@ public final class PromiseTest {
         CHECKS.due("places at which it clashes", past, " 0 0 5 5 5 0 0");
         CHECKS.due("not beside the way", r.history(0, 3, 3) + r.history(0, 5, 3), 0);
         TrackRoutes two = new TrackRoutes(1, 5, 4);
-        netAt(two, 0, 1, 4, 1);
-        netAt(two, 0, 2, 4, 2);
-        netAt(two, 2, 0, 2, 3);
+        Scenes.netAt(two, 0, 1, 4, 1);
+        Scenes.netAt(two, 0, 2, 4, 2);
+        Scenes.netAt(two, 2, 0, 2, 3);
         CHECKS.due("two torn by one way", two.run(1), 2);
         CHECKS.due("which", two.open(0, 0) + " " + two.open(1, 0) + " " + two.count(5), "0 1 1");
     }
@@ -450,29 +395,29 @@ public final class PromiseTest {
      * Then (2, 1) costs the column 8 and 20 and a history of 10; by (1, 1) it is 10 and 20.
      */
     private static void promise8RunHistoryCosts() {
-        TrackRoutes r = cross();
+        TrackRoutes r = Scenes.cross();
         r.run(2);
-        CHECKS.due("the column goes elsewhere", pieces(r, 1), "0,1,0 0,2,0 0,1,1 0,1,2 0,2,2");
+        CHECKS.due("the column goes elsewhere", Scenes.pieces(r, 1), "0,1,0 0,2,0 0,1,1 0,1,2 0,2,2");
         CHECKS.due("histories", r.history(0, 2, 1) + " " + r.history(0, 1, 1) + " " + r.history(0, 3, 1), "10 5 0");
         TrackRoutes layers = new TrackRoutes(2, 5, 3);
-        netAt(layers, 0, 1, 4, 1);
-        netAt(layers, 2, 0, 2, 2);
+        Scenes.netAt(layers, 0, 1, 4, 1);
+        Scenes.netAt(layers, 2, 0, 2, 2);
         CHECKS.due("with another layer there is a way", layers.run(8), 0);
-        CHECKS.due("and no tearing up", counts(layers), "2 4 0 1 2 0");
-        CHECKS.due("over the row", pieces(layers, 1), "0,2,0^ 0,2,2^ 1,2,0 1,2,1 1,2,2");
+        CHECKS.due("and no tearing up", Scenes.counts(layers), "2 4 0 1 2 0");
+        CHECKS.due("over the row", Scenes.pieces(layers, 1), "0,2,0^ 0,2,2^ 1,2,0 1,2,1 1,2,2");
     }
 
     private static void promise8RunRounds() {
         TrackRoutes r = new TrackRoutes(1, 5, 3);
-        int one = netAt(r, 0, 0);
+        int one = Scenes.netAt(r, 0, 0);
         int none = r.net();
         CHECKS.due("none and one pin are joined", r.run(8), 0);
         CHECKS.due("without a round", r.joined(one) + " " + r.joined(none) + " " + r.count(3), "true true 0");
-        int same = netAt(r, 2, 2, 2, 2);
+        int same = Scenes.netAt(r, 2, 2, 2, 2);
         CHECKS.due("never routed", r.run(0), 1);
         CHECKS.due("also 3", r.open(0, 0) + " " + r.open(0, 1), same + " 3");
         CHECKS.due("two pins at one place", r.run(8), 0);
-        CHECKS.due("a round, no way", counts(r), "3 3 0 1 0 0");
+        CHECKS.due("a round, no way", Scenes.counts(r), "3 3 0 1 0 0");
         int open = r.net();
         r.pin(open);
         CHECKS.due("a pin without access closes its net", r.run(8), 1);
@@ -481,7 +426,7 @@ public final class PromiseTest {
 
     private static void promise9Piece() {
         TrackRoutes r = new TrackRoutes(1, 3, 2);
-        int net = netAt(r, 0, 0, 2, 0);
+        int net = Scenes.netAt(r, 0, 0, 2, 0);
         CHECKS.outOfBounds("net before run", () -> r.piece(1, 0, 0));
         CHECKS.outOfBounds("net below 0", () -> r.piece(-1, 0, 0));
         CHECKS.outOfBounds("what before run", () -> r.piece(net, 0, 4));
@@ -506,20 +451,20 @@ public final class PromiseTest {
         r.rule(1, 1, 0);
         r.rule(2, 0, 2);
         int net = r.net();
-        pinAt(r, net, 0, 0, 0);
-        pinAt(r, net, 1, 0, 0);
-        pinAt(r, net, 1, 1, 0);
-        pinAt(r, net, 0, 1, 0);
+        Scenes.pinAt(r, net, 0, 0, 0);
+        Scenes.pinAt(r, net, 1, 0, 0);
+        Scenes.pinAt(r, net, 1, 1, 0);
+        Scenes.pinAt(r, net, 0, 1, 0);
         CHECKS.due("joined", r.run(1), 0);
-        CHECKS.due("a via where the route steps", pieces(r, net), "0,0,0^ 0,1,0 1,0,0 1,1,0");
+        CHECKS.due("a via where the route steps", Scenes.pieces(r, net), "0,0,0^ 0,1,0 1,0,0 1,1,0");
         TrackRoutes alone = new TrackRoutes(2, 1, 1);
         int split = alone.net();
-        pinAt(alone, split, 0, 0, 0);
-        pinAt(alone, split, 1, 0, 0);
+        Scenes.pinAt(alone, split, 0, 0, 0);
+        Scenes.pinAt(alone, split, 1, 0, 0);
         alone.run(0);
-        CHECKS.due("without a route no via", pieces(alone, split), "0,0,0 1,0,0");
+        CHECKS.due("without a route no via", Scenes.pieces(alone, split), "0,0,0 1,0,0");
         alone.run(1);
-        CHECKS.due("with one", pieces(alone, split), "0,0,0^ 1,0,0");
+        CHECKS.due("with one", Scenes.pieces(alone, split), "0,0,0^ 1,0,0");
     }
 
     private static void promise10Chosen() {
@@ -564,11 +509,11 @@ public final class PromiseTest {
         CHECKS.outOfBounds("what below 0", () -> r.open(0, -1));
         CHECKS.outOfBounds("k before run", () -> r.open(-1, 0));
         CHECKS.illegalState("no run", () -> r.open(0, 0));
-        int torn = netAt(r, 0, 0, 5, 0);
+        int torn = Scenes.netAt(r, 0, 0, 5, 0);
         int closed = r.net();
         r.pin(closed);
-        int whole = netAt(r, 0, 1);
-        int cut = netAt(r, 0, 2, 5, 2);
+        int whole = Scenes.netAt(r, 0, 1);
+        int cut = Scenes.netAt(r, 0, 2, 5, 2);
         r.bar(0, 3, 2, 3, 2);
         r.bar(0, 3, 1, 3, 1);
         CHECKS.due("none routed", r.run(0), 3);
@@ -586,7 +531,7 @@ public final class PromiseTest {
     private static void promise12Joined() {
         TrackRoutes r = new TrackRoutes(1, 5, 1);
         CHECKS.outOfBounds("no net", () -> r.joined(0));
-        int net = netAt(r, 0, 0, 4, 0);
+        int net = Scenes.netAt(r, 0, 0, 4, 0);
         CHECKS.illegalState("no run", () -> r.joined(net));
         CHECKS.outOfBounds("net before run", () -> r.joined(1));
         CHECKS.outOfBounds("net below 0", () -> r.joined(-1));
@@ -601,7 +546,7 @@ public final class PromiseTest {
 
     /** A run leaves no clash: what could clash is not chosen, not walked over, or torn up. */
     private static void promise13Broken() {
-        TrackRoutes r = cross();
+        TrackRoutes r = Scenes.cross();
         CHECKS.outOfBounds("k before run", () -> r.broken(-1));
         CHECKS.illegalState("no run", () -> r.broken(0));
         for (int rounds = 0; rounds <= 8; rounds++) {
@@ -612,7 +557,7 @@ public final class PromiseTest {
     }
 
     private static void promise14History() {
-        TrackRoutes r = cross();
+        TrackRoutes r = Scenes.cross();
         CHECKS.illegalState("no run", () -> r.history(0, 2, 1));
         CHECKS.outOfBounds("layer before run", () -> r.history(1, 0, 0));
         CHECKS.outOfBounds("x before run", () -> r.history(0, 5, 0));
@@ -629,16 +574,16 @@ public final class PromiseTest {
     }
 
     private static void promise15Count() {
-        TrackRoutes r = cross();
+        TrackRoutes r = Scenes.cross();
         CHECKS.outOfBounds("what 6", () -> r.count(6));
         CHECKS.outOfBounds("what -1", () -> r.count(-1));
-        CHECKS.due("without a run", counts(r), "2 4 0 0 0 0");
+        CHECKS.due("without a run", Scenes.counts(r), "2 4 0 0 0 0");
         r.run(3);
-        CHECKS.due("with one", counts(r), "2 4 0 3 1 5");
+        CHECKS.due("with one", Scenes.counts(r), "2 4 0 3 1 5");
         r.bar(0, 0, 0, 1, 0);
-        CHECKS.due("changed since", counts(r), "2 4 2 0 0 0");
+        CHECKS.due("changed since", Scenes.counts(r), "2 4 2 0 0 0");
         r.run(1);
-        CHECKS.due("the latest one", counts(r), "2 4 2 1 1 1");
+        CHECKS.due("the latest one", Scenes.counts(r), "2 4 2 1 1 1");
     }
 
     private static void stale(TrackRoutes r, String what) {
@@ -654,7 +599,7 @@ public final class PromiseTest {
     }
 
     private static void changesEndARun() {
-        TrackRoutes r = cross();
+        TrackRoutes r = Scenes.cross();
         stale(r, "new");
         r.net();
         stale(r, "net");
@@ -674,49 +619,5 @@ public final class PromiseTest {
         CHECKS.dueCall("a bar of what is barred is no change", () -> r.chosen(0), 0);
         r.rule(2, 0, 6);
         CHECKS.dueCall("a rule as before is no change", () -> r.chosen(0), 0);
-    }
-
-    /** Everything of a small object that can be asked, as one text. */
-    private static String all(TrackRoutes r) {
-        StringBuilder text = new StringBuilder(counts(r));
-        for (int net = 0; net < r.count(0); net++) {
-            text.append(" | ").append(pieces(r, net)).append(' ').append(r.joined(net));
-        }
-        for (int k = 0; k < r.count(1); k++) {
-            text.append(' ').append(r.chosen(k));
-        }
-        for (int k = 0; k < 4; k++) {
-            text.append(' ').append(r.open(k, 0)).append(' ').append(r.open(k, 1)).append(' ').append(r.broken(k));
-        }
-        return text.append(' ').append(r.history(0, 2, 1)).toString();
-    }
-
-    private static void throwingChangesNothing() {
-        TrackRoutes r = cross();
-        for (int k = r.count(0); k < 16; k++) {
-            r.net();
-        }
-        for (int k = r.count(1); k < 40; k++) {
-            r.pin(15);
-        }
-        for (int x = 0; x < 4; x++) {
-            r.access(39, 0, x, 0);
-        }
-        r.run(3);
-        String before = all(r);
-        CHECKS.illegalState("net", r::net);
-        CHECKS.illegalState("pin", () -> r.pin(0));
-        CHECKS.outOfBounds("pin of no net", () -> r.pin(16));
-        CHECKS.illegalState("access", () -> r.access(39, 0, 4, 0));
-        CHECKS.outOfBounds("access of no place", () -> r.access(0, 0, 5, 0));
-        CHECKS.illegalArgument("bar", () -> r.bar(0, 0, 0, 5, 2));
-        CHECKS.outOfBounds("bar of no layer", () -> r.bar(1, 0, 0, 1, 1));
-        CHECKS.illegalArgument("rule", () -> r.rule(0, 0, 3));
-        CHECKS.outOfBounds("rule of no layer", () -> r.rule(0, 1, 1));
-        CHECKS.outOfBounds("shield", () -> r.shield(16));
-        CHECKS.illegalArgument("run", () -> r.run(9));
-        CHECKS.due("all as before", all(r), before);
-        r.run(3);
-        CHECKS.due("and as before with a new run", all(r), before);
     }
 }
