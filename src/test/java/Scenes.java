@@ -17,6 +17,29 @@ final class Scenes {
         return net;
     }
 
+    /** An object of one layer on which a step costs 1, along and across. */
+    static TrackRoutes even(int width, int height) {
+        TrackRoutes r = new TrackRoutes(1, width, height);
+        r.rule(1, 0, 0);
+        return r;
+    }
+
+    /** A net with pins at layer, x, y, layer, x, y, .. */
+    static int netOn(TrackRoutes r, int... places) {
+        int net = r.net();
+        for (int k = 0; k + 2 < places.length; k += 3) {
+            pinAt(r, net, places[k], places[k + 1], places[k + 2]);
+        }
+        return net;
+    }
+
+    /** Places to be barred: layer, x, y, layer, x, y, .. */
+    static void barAll(TrackRoutes r, int... places) {
+        for (int k = 0; k + 2 < places.length; k += 3) {
+            r.bar(places[k], places[k + 1], places[k + 2], places[k + 1], places[k + 2]);
+        }
+    }
+
     /** A row and a column of one layer that must cross: each tears up the other one. */
     static TrackRoutes cross() {
         TrackRoutes r = new TrackRoutes(1, 5, 3);
@@ -93,6 +116,13 @@ final class Scenes {
                 .append(',').append(r.piece(net, k, 2)).append(r.piece(net, k, 3) == 1 ? "^" : "");
         }
         return text.toString();
+    }
+
+    /** One round, and then the net is joined and stands at these places. */
+    static void dueRoute(Checks checks, String what, TrackRoutes r, int net, String due) {
+        r.run(1);
+        checks.due(what, pieces(r, net), due);
+        checks.due(what + ": joined", r.joined(net), true);
     }
 
     /** What is counted: nets, pins, barred, rounds, ways without and with tearing up. */
